@@ -612,7 +612,8 @@ public final class Seatpower {
                 text.fraction(Tables.countOrders(table, many, member), Tables.factorial(many));
                 break;
             case 3:
-                text.fraction(Tables.leastParts(table, many, member), Tables.ALL_PARTS * Tables.countLeast(table, many));
+                text.fraction(Tables.leastParts(table, many, member),
+                        Tables.ALL_PARTS * Tables.countLeast(table, many));
                 break;
             default:
                 text.fraction(Tables.countLeastWith(table, many, member), Tables.countAllLeastWith(table, many));

@@ -7,10 +7,12 @@ import java.util.Random;
 
 /** Runs of 512 calls, with good and with wrong arguments, on Seatpower and on the slow model of the document. */
 public final class ModelTest {
-    private static final int RUNS = 240;
+    private static final int RUNS = 144;
     private static final int CALLS = 512;
-    private static final List<String> TELLING = List.of("weight", "like", "quarrel", "quota", "list", "votes", "minimum");
-    private static final List<String> SELDOM = List.of("members", "parties", "none", "isSound", "digest");
+    private static final List<String> TELLING = List.of("weight", "weight", "like", "quarrel", "quota", "list", "list",
+            "join", "votes", "votes", "minimum", "bar");
+    private static final List<String> SELDOM = List.of("members", "parties", "none", "none", "isSound", "digest", "digest",
+            "undo", "make", "veto");
 
     private static Random random;
     private static int wrong = 0;
@@ -19,6 +21,9 @@ public final class ModelTest {
         Method[] face = Arrays.stream(Seatpower.class.getDeclaredMethods())
                 .filter(method -> java.lang.reflect.Modifier.isPublic(method.getModifiers()))
                 .sorted(Comparator.comparing(Method::getName)).toArray(Method[]::new);
+        for (int members = 1; members <= 4 && wrong == 0; members++) {
+            compareAllBodies(members, face);
+        }
         for (int run = 0; run < RUNS && wrong == 0; run++) {
             random = new Random(run);
             runCalls(run, face);
@@ -32,8 +37,11 @@ public final class ModelTest {
         SeatpowerModel model = new SeatpowerModel();
         StringBuilder log = new StringBuilder();
         for (int call = 0; call < CALLS && wrong == 0; call++) {
-            Method method = pick(face);
+            Method method = call < 2 ? named(face, call == 0 ? "members" : "parties") : pick(face);
             Object[] arguments = argumentsOf(method, program);
+            if (call < 2) {
+                arguments[0] = 1 + (call == 0 ? run : run / 6) % 6;
+            }
             Object got = answer(program, method.getName(), method.getParameterTypes(), arguments);
             Object due = answer(model, method.getName(), method.getParameterTypes(), arguments);
             log.append(method.getName()).append(Arrays.toString(arguments)).append(" -> ").append(got).append('\n');
@@ -45,13 +53,52 @@ public final class ModelTest {
         }
     }
 
-    private static Method pick(Method[] face) {
-        Method method = face[random.nextInt(face.length)];
-        int kind = random.nextInt(3);
-        for (int tries = 0; tries < 40 && kind == 0 && !TELLING.contains(method.getName()); tries++) {
-            method = face[random.nextInt(face.length)];
+    /** What is asked of a body, for each body of so many members. */
+    private static void compareAllBodies(int members, Method[] face) {
+        Seatpower program = new Seatpower();
+        SeatpowerModel model = new SeatpowerModel();
+        program.members(members);
+        model.members(members);
+        for (int number = 0; number < 170; number++) {
+            compare(program, model, named(face, "make"), 0, number);
+            for (int what = 0; what <= 8; what++) {
+                compare(program, model, named(face, "ofBody"), 0, what);
+            }
+            compare(program, model, named(face, "least"), 0, false);
+            compare(program, model, named(face, "least"), 0, true);
+            compare(program, model, named(face, "weights"), 0);
+            compare(program, model, named(face, "trade"), 0);
+            for (int member = 0; member < members; member++) {
+                for (int kind = 0; kind <= 4; kind++) {
+                    compare(program, model, named(face, "power"), 0, member, kind);
+                }
+            }
         }
-        for (int tries = 0; tries < 2 && SELDOM.contains(method.getName()); tries++) {
+    }
+
+    private static void compare(Seatpower program, SeatpowerModel model, Method method, Object... arguments) {
+        Object got = answer(program, method.getName(), method.getParameterTypes(), arguments);
+        Object due = answer(model, method.getName(), method.getParameterTypes(), arguments);
+        if (!due.equals(got)) {
+            wrong++;
+            System.out.println(method.getName() + Arrays.toString(arguments) + " answered " + got + ", due is " + due);
+        }
+    }
+
+    private static Method named(Method[] face, String name) {
+        return Arrays.stream(face).filter(method -> method.getName().equals(name)).findFirst().orElseThrow();
+    }
+
+    private static Method pick(Method[] face) {
+        int kind = random.nextInt(100);
+        if (kind < 25) {
+            return named(face, TELLING.get(random.nextInt(TELLING.size())));
+        }
+        if (kind < 28) {
+            return named(face, SELDOM.get(random.nextInt(SELDOM.size())));
+        }
+        Method method = face[random.nextInt(face.length)];
+        for (int tries = 0; tries < 100 && SELDOM.contains(method.getName()); tries++) {
             method = face[random.nextInt(face.length)];
         }
         return method;
@@ -75,6 +122,10 @@ public final class ModelTest {
         for (int place = 0; place < types.length; place++) {
             arguments[place] = types[place] == boolean.class ? (Object) random.nextBoolean()
                     : (Object) number(kinds.charAt(place), program);
+            boolean isPair = place > 0 && kinds.charAt(place) == kinds.charAt(place - 1) && kinds.charAt(place) != 'b';
+            for (int tries = 0; tries < 3 && isPair && arguments[place].equals(arguments[place - 1]); tries++) {
+                arguments[place] = number(kinds.charAt(place), program);
+            }
         }
         return arguments;
     }
@@ -121,6 +172,7 @@ public final class ModelTest {
         }
         int members = program.house(0);
         switch (kind) {
+            case 'M': return random.nextInt(3) == 0 ? random.nextInt(10) : 0;
             case 'n': return 1 + random.nextInt(6);
             case 'm': return random.nextInt(members);
             case 'p': return random.nextInt(program.house(3));
@@ -133,9 +185,8 @@ public final class ModelTest {
             case 'N': return random.nextInt(new int[] {3, 6, 20, 168, 9, 9}[members - 1]);
             case 'k': return random.nextInt(5);
             case 'o': return random.nextInt(800);
-            case 'v': return random.nextInt(random.nextBoolean() ? 30 : 10000);
-            case 'M': return Math.max(0, random.nextInt(14) - 4);
-            case 'B': return Math.max(0, random.nextInt(61) - 10);
+            case 'v': return random.nextInt(new int[] {12, 100, 1000, 10000}[random.nextInt(4)]);
+            case 'B': return random.nextInt(3) == 0 ? random.nextInt(51) : random.nextInt(12);
             case 'x': return random.nextInt(6);
             default: return random.nextInt(41);
         }

@@ -3,7 +3,9 @@ import java.util.ArrayDeque;
 import java.util.ArrayList;
 import java.util.Arrays;
 import java.util.Deque;
+import java.util.HashMap;
 import java.util.List;
+import java.util.Map;
 import java.util.Set;
 import java.util.TreeSet;
 
@@ -13,6 +15,7 @@ import java.util.TreeSet;
  */
 public final class SeatpowerModel {
     private static final int NONE = -1;
+    private static final Map<Integer, List<Integer>> TABLES = new HashMap<>();
 
     /** All that undo() gives back. */
     private static final class State {
@@ -318,6 +321,10 @@ public final class SeatpowerModel {
     }
 
     private List<Integer> tables() {
+        return TABLES.computeIfAbsent(s.members, many -> allTables());
+    }
+
+    private List<Integer> allTables() {
         List<Integer> tables = new ArrayList<>();
         for (int table = 0; table < 1 << groups(); table += 2) {
             if (isMonotone(table)) {
