@@ -494,17 +494,12 @@ public final class Seatpower {
             d = mixed(d, turner(body, order));
         }
         for (int member = 0; member < now.members; member++) {
-            d = withPowers(d, body, member);
-        }
-        return d;
-    }
-
-    private long withPowers(long start, int body, int member) {
-        long d = mixed(start, swings(body, member, false));
-        d = mixed(d, swings(body, member, true));
-        for (int kind = 0; kind <= 4; kind++) {
-            writePower(body, member, kind);
-            d = mixed(d, text.length);
+            d = mixed(d, swings(body, member, false));
+            d = mixed(d, swings(body, member, true));
+            for (int kind = 0; kind <= 4; kind++) {
+                writePower(body, member, kind);
+                d = mixed(d, text.length);
+            }
         }
         return d;
     }
@@ -616,7 +611,7 @@ public final class Seatpower {
                         Tables.ALL_PARTS * Tables.countLeast(table, many));
                 break;
             default:
-                text.fraction(Tables.countLeastWith(table, many, member), Tables.countAllLeastWith(table, many));
+                text.fraction(Tables.countLeastWith(table, many, member), Tables.countHeadsOfLeast(table, many));
                 break;
         }
     }
@@ -1012,10 +1007,11 @@ public final class Seatpower {
             return count;
         }
 
-        static int countAllLeastWith(long table, int many) {
+        /** How many least groups the members have, one by one, all together. */
+        static int countHeadsOfLeast(long table, int many) {
             int count = 0;
-            for (int member = 0; member < many; member++) {
-                count += countLeastWith(table, many, member);
+            for (int group = 0; group < groups(many); group++) {
+                count += isLeast(table, many, group) ? Integer.bitCount(group) : 0;
             }
             return count;
         }

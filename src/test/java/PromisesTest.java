@@ -224,8 +224,13 @@ public final class PromisesTest {
         due(1, () -> x.quarrel(0, 2, true));
         due(INDEX, () -> x.quarrel(3, 3, true));
         due(INDEX, () -> x.quarrel(0, -1, true));
+        due(INDEX, () -> x.quarrel(-1, 0, true));
         due(ARGUMENT, () -> x.quarrel(1, 1, true));
         nothingDone(x, 6);
+        due(0, () -> x.quarrel(1, 2, true));
+        due(1, () -> x.quarrel(1, 2, false));
+        due(0, () -> x.quarrel(2, 1, false));
+        due(1, () -> x.house(2));
     }
 
     private static void promise6() {
@@ -577,6 +582,7 @@ public final class PromisesTest {
         due(1, () -> council(1).best(0));
         due(41, () -> council(99, 20, 20).best(0));
         due(120, () -> council(99, 20, 20).best(1));
+        due(2, () -> council(2, 0, 1).best(1));
         due(1, () -> council(99).best(0));
         due(4, () -> council(1, 1, 1, 1, 1, 1).best(5));
         due(INDEX, () -> new Seatpower().best(3));
@@ -600,8 +606,12 @@ public final class PromisesTest {
         due(8, () -> {
             x.list(1, 7);
             x.list(1, 8);
-            x.like(0, 1, 9);
             return x.held(1);
+        });
+        due(3, () -> {
+            Seatpower y = listed(3, 3, 4);
+            y.like(0, 1, 9);
+            return y.held(0);
         });
         due(INDEX, () -> x.held(4));
         due(INDEX, () -> x.held(-1));
@@ -676,6 +686,11 @@ public final class PromisesTest {
             y.bar(50);
             return y.house(6);
         });
+        Seatpower z = poll(81, 10);
+        z.bar(11);
+        due(1, () -> z.house(6));
+        z.bar(10);
+        due(2, () -> z.house(6));
     }
 
     private static void promise31() {
@@ -830,6 +845,8 @@ public final class PromisesTest {
         }
         x.minimum(0, 4);
         due("7:2", () -> x.odd(5));
+        due("39:1", () -> poll(60, 19, 56, 29).odd(5));
+        due("-", () -> poll(790, 765, 378, 23, 430, 18).odd(5));
         due("-", () -> poll(1, 1).odd(5));
         due("-", () -> poll(0, 0).odd(5));
         due(ARGUMENT, () -> x.odd(6));
@@ -853,6 +870,8 @@ public final class PromisesTest {
         due("3", () -> x.merged(0, 6, 1, 2));
         due(INDEX, () -> x.merged(6, 41, 3, 3));
         due(INDEX, () -> x.merged(0, 0, 0, -1));
+        due(INDEX, () -> x.merged(0, 0, 3, 0));
+        due(INDEX, () -> x.merged(0, 0, -1, 0));
         due(ARGUMENT, () -> x.merged(6, 0, 0, 1));
         due(ARGUMENT, () -> x.merged(0, 41, 0, 1));
         due(ARGUMENT, () -> x.merged(0, 0, 1, 1));
@@ -872,6 +891,10 @@ public final class PromisesTest {
         due("!", () -> x.moved(5, 3, 0, 2, 10));
         due("2 1 0", () -> x.moved(5, 3, 0, 2, 9));
         due(INDEX, () -> x.moved(6, 0, 3, 3, -1));
+        due(INDEX, () -> x.moved(0, 0, 3, 0, 1));
+        due(INDEX, () -> x.moved(0, 0, 0, 3, 1));
+        due(INDEX, () -> x.moved(0, 0, -1, 0, 1));
+        due(INDEX, () -> x.moved(0, 0, 0, -1, 1));
         due(ARGUMENT, () -> x.moved(6, 0, 0, 1, 0));
         due(ARGUMENT, () -> x.moved(0, 41, 0, 1, 0));
         due(ARGUMENT, () -> x.moved(0, 0, 1, 1, 0));
@@ -883,6 +906,7 @@ public final class PromisesTest {
         promise = 38;
         Seatpower x = poll(60, 30, 10);
         due(0, () -> x.missed(5, 5));
+        due(1, () -> x.missed(0, 5));
         due(0, () -> poll(60, 30, 10).missed(0, 10));
         Seatpower y = poll(90, 4, 3, 3);
         due(1, () -> y.missed(2, 10));
