@@ -63,7 +63,7 @@ public final class LanguageTest {
     private static final List<String> LEFT_OUT = List.of("import", "package", "synchronized", "assert", "finally",
             "protected", "volatile", "transient", "native", "catch", "->", "::", "\\+ \"", "\" \\+", "Exact\\(",
             "String\\.", "Object", "var", "System\\.(?!arraycopy)", "static \\{");
-    private static final int DIGESTS = 512;
+    private static final int DIGESTS = 480;
     private static final long MOST_BYTES = 2_000_000;
     private static final int LONGEST_METHOD = 60;
 

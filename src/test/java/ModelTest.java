@@ -55,11 +55,11 @@ public final class ModelTest {
 
     /** What is asked of a body, for each body of so many members. */
     private static void compareAllBodies(int members, Method[] face) {
-        Seatpower program = new Seatpower();
-        SeatpowerModel model = new SeatpowerModel();
-        program.members(members);
-        model.members(members);
         for (int number = 0; number < 170; number++) {
+            Seatpower program = new Seatpower();
+            SeatpowerModel model = new SeatpowerModel();
+            program.members(members);
+            model.members(members);
             compare(program, model, named(face, "make"), 0, number);
             for (int what = 0; what <= 8; what++) {
                 compare(program, model, named(face, "ofBody"), 0, what);
