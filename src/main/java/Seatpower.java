@@ -1541,17 +1541,13 @@ public final class Seatpower {
                 sign('-');
                 rest = -rest;
             }
+            boolean isBegun = false;
             for (long unit = GREATEST_UNIT; unit > 0; unit /= 10) {
-                if (rest >= unit || unit == 1) {
-                    writeDigits(rest, unit);
-                    return;
+                long digit = rest / unit % 10;
+                isBegun = isBegun || digit > 0 || unit == 1;
+                if (isBegun) {
+                    sign((char) ('0' + digit));
                 }
-            }
-        }
-
-        private void writeDigits(long number, long greatest) {
-            for (long unit = greatest; unit > 0; unit /= 10) {
-                sign((char) ('0' + number / unit % 10));
             }
         }
 

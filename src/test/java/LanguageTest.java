@@ -6,14 +6,11 @@ import java.lang.reflect.Modifier;
 import java.nio.file.Files;
 import java.nio.file.Path;
 import java.util.Arrays;
-import java.util.List;
 import java.util.Set;
 import java.util.TreeSet;
-import java.util.regex.Matcher;
-import java.util.regex.Pattern;
 import java.util.stream.Collectors;
 
-/** The face, letter by letter; words that ../shared/LANGUAGE.md leaves out; and how much the dearest call makes. */
+/** The face, letter by letter; the rules of ../shared/LANGUAGE.md; and how much the dearest call makes. */
 public final class LanguageTest {
     private static final String FACE = """
             int members(int) throws IllegalArgumentException
@@ -60,12 +57,9 @@ public final class LanguageTest {
             boolean isSound() throws 
             long digest() throws 
             """;
-    private static final List<String> LEFT_OUT = List.of("import", "package", "synchronized", "assert", "finally",
-            "protected", "volatile", "transient", "native", "catch", "->", "::", "\\+ \"", "\" \\+", "Exact\\(",
-            "String\\.", "Object", "var", "System\\.(?!arraycopy)", "static \\{");
     private static final int DIGESTS = 480;
     private static final long MOST_BYTES = 2_000_000;
-    private static final int LONGEST_METHOD = 60;
+    private static final int LONGEST_LINE = 120;
 
     private static int wrong = 0;
 
@@ -78,7 +72,7 @@ public final class LanguageTest {
 
     public static void main(String[] args) throws IOException {
         checkFace();
-        checkSource(Files.readString(Path.of("src/main/java/Seatpower.java")));
+        checkSource(Path.of("src/main/java/Seatpower.java"));
         checkRoom();
         System.out.println(wrong == 0 ? "the language is kept" : wrong + " rules are broken");
         System.exit(wrong == 0 ? 0 : 1);
@@ -132,23 +126,10 @@ public final class LanguageTest {
                 .forEach(field -> check(Modifier.isFinal(field.getModifiers()), field + " is not final"));
     }
 
-    private static void checkSource(String source) {
-        for (String word : LEFT_OUT) {
-            String pattern = word.matches("\\w+") ? "\\b" + word + "\\b" : word;
-            Matcher matcher = Pattern.compile(pattern).matcher(source);
-            check(!matcher.find(), "the source has " + word);
-        }
-        Matcher thrown = Pattern.compile("\\bthrow\\b(.*)").matcher(source);
-        while (thrown.find()) {
-            check(thrown.group(1).matches(" new (IllegalState|IllegalArgument|IndexOutOfBounds)Exception\\(\"[^\"]*\"\\);"),
-                    "throws" + thrown.group(1));
-        }
-        int length = 0;
-        for (String line : source.lines().toList()) {
-            boolean isHead = line.matches("( {4}| {8})(?=[\\w\\[\\]<> ]+\\().*\\{");
-            length = isHead ? 0 : length + 1;
-            check(!line.matches(" {4}( {4})?\\}") || length <= LONGEST_METHOD || line.equals("    }"), "a long method");
-            check(line.length() <= 120, "a long line: " + line);
+    private static void checkSource(Path source) throws IOException {
+        SourceRules.brokenIn(source).forEach(rule -> check(false, rule));
+        for (String line : Files.readAllLines(source)) {
+            check(line.length() <= LONGEST_LINE, "a long line: " + line);
             check(line.chars().allMatch(sign -> sign > 0 && sign < 128), "a strange sign: " + line);
         }
     }
