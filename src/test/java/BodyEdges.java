@@ -218,8 +218,9 @@ final class BodyEdges {
     private static void risesIn(Seatpower x) {
         Set<Integer> winners = Edges.winners(x, 0);
         Set<Integer> larger = new TreeSet<>(winners);
+        int members = x.house(0);
         for (int group : winners) {
-            for (int member = 0; member < x.house(0); member++) {
+            for (int member = 0; member < members; member++) {
                 larger.add(group | 1 << member);
             }
         }
@@ -308,7 +309,8 @@ final class BodyEdges {
     /** A body told by another one: which group of the other one a group goes as. */
     private static Set<Integer> due(Seatpower x, IntPredicate wins) {
         Set<Integer> due = new TreeSet<>();
-        for (int group = 0; group < 1 << x.house(0); group++) {
+        int groups = 1 << x.house(0);
+        for (int group = 0; group < groups; group++) {
             if (wins.test(group)) {
                 due.add(group);
             }

@@ -38,7 +38,7 @@ public final class ModelTest {
         StringBuilder log = new StringBuilder();
         for (int call = 0; call < CALLS && wrong == 0; call++) {
             Method method = call < 2 ? named(face, call == 0 ? "members" : "parties") : pick(face);
-            Object[] arguments = argumentsOf(method, program);
+            Object[] arguments = argumentsOf(method, model);
             if (call < 2) {
                 arguments[0] = 1 + (call == 0 ? run : run / 6) % 6;
             }
@@ -114,17 +114,17 @@ public final class ModelTest {
         }
     }
 
-    /** Mostly good ones, by what each place of a call means. */
-    private static Object[] argumentsOf(Method method, Seatpower program) {
+    /** Mostly good ones, by what each place of a call means; only the model is asked, whose calls are not counted. */
+    private static Object[] argumentsOf(Method method, SeatpowerModel model) {
         Class<?>[] types = method.getParameterTypes();
         String kinds = kindsOf(method.getName());
         Object[] arguments = new Object[types.length];
         for (int place = 0; place < types.length; place++) {
             arguments[place] = types[place] == boolean.class ? (Object) random.nextBoolean()
-                    : (Object) number(kinds.charAt(place), program);
+                    : (Object) number(kinds.charAt(place), model);
             boolean isPair = place > 0 && kinds.charAt(place) == kinds.charAt(place - 1) && kinds.charAt(place) != 'b';
             for (int tries = 0; tries < 3 && isPair && arguments[place].equals(arguments[place - 1]); tries++) {
-                arguments[place] = number(kinds.charAt(place), program);
+                arguments[place] = number(kinds.charAt(place), model);
             }
         }
         return arguments;
@@ -165,22 +165,22 @@ public final class ModelTest {
         }
     }
 
-    private static int number(char kind, Seatpower program) {
+    private static int number(char kind, SeatpowerModel model) {
         if (random.nextInt(60) == 0) {
             int[] odd = {-1, 0, 6, 7, 40, 41, 64, 100, 1000, 10000, Integer.MAX_VALUE, Integer.MIN_VALUE};
             return odd[random.nextInt(odd.length)];
         }
-        int members = program.house(0);
+        int members = model.house(0);
         switch (kind) {
             case 'M': return random.nextInt(3) == 0 ? random.nextInt(10) : 0;
             case 'n': return 1 + random.nextInt(6);
             case 'm': return random.nextInt(members);
-            case 'p': return random.nextInt(program.house(3));
+            case 'p': return random.nextInt(model.house(3));
             case 'b': return random.nextInt(4);
             case 'g': return random.nextInt(1 << members);
             case 'w': return random.nextInt(random.nextBoolean() ? 7 : 100);
             case 'd': return random.nextInt(11);
-            case 'q': return Math.max(1, program.house(1) * (4 + random.nextInt(7)) / 10 + random.nextInt(2));
+            case 'q': return Math.max(1, model.house(1) * (4 + random.nextInt(7)) / 10 + random.nextInt(2));
             case 'h': return Math.max(0, random.nextInt(8) - 3);
             case 'N': return random.nextInt(new int[] {3, 6, 20, 168, 9, 9}[members - 1]);
             case 'k': return random.nextInt(5);
